@@ -21,6 +21,9 @@ public final class PowerRests {
     private final Item reader = new Item();
     private final Laid laid = new Laid();
 
+    // By what each number of a tower is told: N, how many units that has, how many units that has, ..
+    private final int[] sizes = new int[7];
+
     // All that look strongly prime to 2 up to MOST_ODD (there are 9): found once, when first asked for.
     private final int[] liarsToTwo = new int[16];
     private int liars;
@@ -330,7 +333,7 @@ public final class PowerRests {
                 return BAD;
             }
         }
-        return towerRest(0, k, v, n);
+        return towerRest(k, v, n);
     }
 
     // ---- letters
@@ -632,14 +635,14 @@ public final class PowerRests {
 
     // ---- figures, towers: how
 
+    /** Figures come ahead till the base's power swallows what n shares with it. */
     private static int aheadOf(int b, int n) {
-        int open = n;
+        int part = partBeside(b, n);
+        int shared = part < 1 ? 1 : n / part;
         for (int figures = 0; figures < 32; figures++) {
-            int shared = Numbers.commonDivisor(open, b);
-            if (shared < 2) {
+            if (Numbers.raise(b, figures, shared) == 0) {
                 return figures;
             }
-            open /= shared;
         }
         return 32;
     }
@@ -675,29 +678,29 @@ public final class PowerRests {
         return (int) (v >>> (10 * (k - 1 - at))) & 1023;
     }
 
-    /** The rest of what stands from the number at on; at goes up to k, which is 6 at most. */
-    private int towerRest(int at, int k, long v, int n) {
-        if (n < 1 || at >= k) {
-            return 0;
+    /** From the last number to the first: the rest of what stands above is the next one's exponent. */
+    private int towerRest(int k, long v, int n) {
+        findSizes(k, n);
+        int rest = 1;
+        long high = 1;
+        for (int at = k - 1; at >= 0 && at + 1 < sizes.length; at--) {
+            int number = towerNumber(at, k, v);
+            // Powers go round after size steps, once the primes that are shared are used up: so size more.
+            long exponent = high < HIGH ? high : (long) rest + sizes[at + 1];
+            rest = Numbers.raise(number, exponent, sizes[at]);
+            high = powerBelowHigh(number, high);
         }
-        int number = towerNumber(at, k, v);
-        long exponent = towerBelowHigh(at + 1, k, v);
-        if (exponent >= HIGH) {
-            ofN.split(n);
-            int size = ofN.unitCount();
-            // Powers go round after size steps, once the primes that N shares are used up: so size more.
-            exponent = (long) towerRest(at + 1, k, v, size) + size;
-        }
-        return Numbers.raise(number, exponent, n);
+        return rest;
     }
 
-    /** The tower from the number at on (1, if none is there), or HIGH, if it is no less. */
-    private static long towerBelowHigh(int at, int k, long v) {
-        long high = 1;
-        for (int j = k - 1; j >= at; j--) {
-            high = powerBelowHigh(towerNumber(j, k, v), high);
+    /** The rest of a number's power needs its exponent only by how many units there are. */
+    private void findSizes(int k, int n) {
+        int size = n;
+        for (int at = 0; at < k && at < sizes.length; at++) {
+            sizes[at] = size;
+            ofN.split(size);
+            size = ofN.unitCount();
         }
-        return high;
     }
 
     private static long powerBelowHigh(int number, long e) {

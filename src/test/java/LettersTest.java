@@ -48,17 +48,14 @@ public final class LettersTest {
         rounds(p, q, e, becomes, step);
     }
 
+    /** Tries each D on all letters, and gives one up at the first letter that it does not bring back. */
     private static int leastBack(int[] becomes) {
-        int n = becomes.length;
-        long[] reached = new long[n];
-        java.util.Arrays.fill(reached, 1);
         for (int d = 1;; d++) {
-            boolean all = true;
-            for (int letter = 0; letter < n; letter++) {
-                reached[letter] = reached[letter] * becomes[letter] % n;
-                all &= reached[letter] == letter;
+            int letter = 0;
+            while (letter < becomes.length && Plain.pow(becomes[letter], d, becomes.length) == letter) {
+                letter++;
             }
-            if (all) {
+            if (letter == becomes.length) {
                 return d;
             }
         }

@@ -64,8 +64,7 @@ public final class LooksPrimeTest {
 
     private static boolean looksToAllUnits(int n) {
         for (int a = 1; a < n; a++) {
-            boolean unit = java.math.BigInteger.valueOf(a).gcd(java.math.BigInteger.valueOf(n)).intValue() == 1;
-            if (unit && Plain.pow(a, n - 1, n) != 1) {
+            if (Plain.gcd(a, n) == 1 && Plain.pow(a, n - 1, n) != 1) {
                 return false;
             }
         }

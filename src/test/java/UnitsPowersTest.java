@@ -26,7 +26,7 @@ public final class UnitsPowersTest {
     }
 
     private static void unitsAndOrders(int n) {
-        List<Integer> units = Plain.those(1, n - 1, a -> Plain.order(1, n) == 1 && java.math.BigInteger.valueOf(a).gcd(java.math.BigInteger.valueOf(n)).intValue() == 1);
+        List<Integer> units = Plain.those(1, n - 1, a -> Plain.gcd(a, n) == 1);
         told(n, units, "units");
         Map<Integer, Integer> ofOrder = new HashMap<>();
         int greatest = 0;
@@ -62,7 +62,7 @@ public final class UnitsPowersTest {
             int whole = Plain.order(a, n);
             long reached = a;
             for (int e = 1; e <= whole; e++) {
-                order[(int) reached] = whole / java.math.BigInteger.valueOf(whole).gcd(java.math.BigInteger.valueOf(e)).intValue();
+                order[(int) reached] = whole / Plain.gcd(whole, e);
                 reached = reached * a % n;
             }
         }
@@ -111,7 +111,7 @@ public final class UnitsPowersTest {
         boolean[] square = new boolean[n + 1];
         boolean[] unit = new boolean[n + 1];
         for (int a = 1; a < n; a++) {
-            unit[a] = java.math.BigInteger.valueOf(a).gcd(java.math.BigInteger.valueOf(n)).intValue() == 1;
+            unit[a] = Plain.gcd(a, n) == 1;
         }
         for (long r = 1; r < n; r++) {
             if (unit[(int) r]) {

@@ -2,22 +2,17 @@ import java.util.ArrayList;
 import java.util.List;
 import java.util.function.IntPredicate;
 
-/** Arithmetic straight from the document's words, slow on purpose: it shares nothing with the class. */
+/** Arithmetic straight from the document's words: it shares nothing with the class. */
 public final class Plain {
     private Plain() {
     }
 
     public static int gcd(int a, int b) {
-        for (int d = Math.max(a, b); d > 1; d--) {
-            if (a % d == 0 && b % d == 0) {
-                return d;
-            }
-        }
-        return 1;
+        return b == 0 ? a : gcd(b, a % b);
     }
 
     public static boolean prime(int n) {
-        for (int d = 2; d < n; d++) {
+        for (int d = 2; d <= n / d; d++) {
             if (n % d == 0) {
                 return false;
             }
@@ -26,7 +21,11 @@ public final class Plain {
     }
 
     public static int pow(long a, long e, int n) {
-        return java.math.BigInteger.valueOf(a).modPow(java.math.BigInteger.valueOf(e), java.math.BigInteger.valueOf(n)).intValue();
+        if (e == 0) {
+            return 1 % n;
+        }
+        long half = pow(a, e / 2, n);
+        return (int) (half * half % n * (e % 2 == 0 ? 1 : a % n) % n);
     }
 
     /** The order of a by n, 0 if no power has rest 1. */
