@@ -307,6 +307,8 @@ public final class RestsTogetherTest {
             "n0,8;n1,9;n2,5;n3,7;n4,11;n5,13;n0,4;n0,2;", "b0,6,8;b0,7,9;b0,3,5;b0,5,7;b0,9,11;b0,11,13;b1,2,3;n5,6;", "b0,99,200;b100,199,200;",
             "b0,0,199;b1,1,193;b2,2,50;", "b0,0,199;b1,1,193;b2,2,50;b3,3,25;", "b0,0,199;b1,1,193;b2,2,50;b3,3,25;b0,3,5;b4,4,5;n2,10;p2,3,4;",
             "l1,1,128;l1,2,125;l1,3,121;", "l1,1,128;l1,2,125;l1,3,127;", "n0,160;n0,125;n0,100;",
+            // The first two leave only the last number of their own period: they are no LONE set.
+            "l1,198,199;l1,192,193;n198,199;", "b63,63,64;b2,2,3;n191,192;n8,9;",
             // 1999998 is the greatest PERIOD there is, 2000016 the least that is too great.
             "n0,2;n1,27;n2,7;n3,11;n4,13;n5,37;", "l1,0,54;l1,1,77;l1,2,13;l1,3,37;", "n0,16;n1,9;n2,17;n3,19;n4,43;"};
         for (String one : texts) {
