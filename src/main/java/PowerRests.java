@@ -923,23 +923,26 @@ public final class PowerRests {
         }
     }
 
-    /** Marked rests. A mark holds while its number is the newest, so nothing has to be cleared. */
+    /** Marked rests, each a bit: a row of numbers would be most of what an object takes. */
     private static final class Marks {
-        private final int[] marked = new int[MOST_N];
-        private int newest;
+        private final long[] bits = new long[MOST_N / 64 + 1];
 
         void wipeAll() {
-            newest++;
+            for (int at = 0; at < bits.length; at++) {
+                bits[at] = 0;
+            }
         }
 
         void put(int rest) {
-            if (rest >= 0 && rest < marked.length) {
-                marked[rest] = newest;
+            int at = rest >> 6;
+            if (at >= 0 && at < bits.length) {
+                bits[at] |= 1L << (rest & 63);
             }
         }
 
         boolean has(int rest) {
-            return rest >= 0 && rest < marked.length && marked[rest] == newest;
+            int at = rest >> 6;
+            return at >= 0 && at < bits.length && (bits[at] >> (rest & 63) & 1) == 1;
         }
 
         int pick(int i, int n) {

@@ -3,8 +3,8 @@ import java.lang.management.ManagementFactory;
 /** What a run makes is counted: nothing may be made by calls, and little by the constructor. */
 public final class RoomTest {
     private static final com.sun.management.ThreadMXBean COUNTER = (com.sun.management.ThreadMXBean) ManagementFactory.getThreadMXBean();
-    // 7.3 million elements of 8 bytes at most are the room of a run; an object of ours takes a hundredth part.
-    private static final long MOST_OF_AN_OBJECT = 400000;
+    // 7.3 million elements of 8 bytes at most are the room of a run; an object of ours takes a thousandth part.
+    private static final long MOST_OF_AN_OBJECT = 40000;
 
     public static void main(String[] args) {
         new PowerRests();
