@@ -431,8 +431,10 @@ public final class BoundaryRestsTogetherTest {
 
     private static void periods() {
         Check.sentence("PERIOD, the least common multiple of all M,");
-        String[] texts = {"", "n0,2;", "n0,200;", "n0,4;n0,6;", "n0,200;".repeat(8), "n0,199;n0,199;", "n0,128;n0,125;", "n0,2;n0,3;n0,5;n0,7;"};
-        int[] due = {1, 2, 200, 12, 200, 199, 16000, 210};
+        String[] texts = {"", "n0,2;", "n0,200;", "n0,4;n0,6;", "n0,200;".repeat(8), "n0,199;n0,199;", "n0,128;n0,125;", "n0,2;n0,3;n0,5;n0,7;",
+            // All of the first to the eighth count.
+            "n0,3;" + "n0,2;".repeat(7), "n0,2;".repeat(7) + "n0,3;"};
+        int[] due = {1, 2, 200, 12, 200, 199, 16000, 210, 6, 6};
         for (int k = 0; k < texts.length; k++) {
             PowerRests x = Texts.with(texts[k]);
             Check.due(x.lay(), due[k], "lay " + texts[k]);
@@ -447,6 +449,9 @@ public final class BoundaryRestsTogetherTest {
         Check.due(Texts.laid("b53,53,54;b76,76,77;b12,12,13;b36,36,37;").ith(0), 1999997, "ith", 0);
         Check.due(Texts.with("n0,144;n0,17;n0,19;n0,43;").lay(), NO, "lay");
         Check.due(Texts.with("n0,16;n0,9;n0,17;n0,19;n0,43;").lay(), NO, "lay");
+        // It is the eighth that makes it too great, or just not.
+        Check.due(Texts.with("n0,2;".repeat(4) + "n0,54;n0,77;n0,13;n0,37;").lay(), 1999998, "lay");
+        Check.due(Texts.with("n0,2;".repeat(4) + "n0,144;n0,17;n0,19;n0,43;").lay(), NO, "lay");
     }
 
     private static void multiplesThatWrap() {
