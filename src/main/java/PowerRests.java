@@ -428,7 +428,7 @@ public final class PowerRests {
         ofOrder.split(e);
         for (int k = 0; k < ofOrder.kinds; k++) {
             int q = ofOrder.primes[k];
-            for (int t = 0; t < ofOrder.times[k] && Numbers.raise(a, e / q, n) == 1; t++) {
+            for (int t = 0; q > 1 && t < ofOrder.times[k] && Numbers.raise(a, e / q, n) == 1; t++) {
                 e /= q;
             }
         }
@@ -455,7 +455,8 @@ public final class PowerRests {
             return false;
         }
         for (int k = 0; k < ofOrder.kinds; k++) {
-            if (Numbers.raise(a, e / ofOrder.primes[k], n) == 1) {
+            int q = ofOrder.primes[k];
+            if (q > 1 && Numbers.raise(a, e / q, n) == 1) {
                 return false;
             }
         }
@@ -465,13 +466,13 @@ public final class PowerRests {
     /** Every maker is a power of the first one, with an exponent that shares nothing with the size. */
     private void markMakers(int n, int size) {
         long first = firstMaker(n, size);
-        long maker = first;
+        int maker = (int) first;
         marks.wipeAll();
         for (int e = 1; e <= size; e++) {
             if (!ofOrder.sharesWith(e)) {
-                marks.put((int) maker);
+                marks.put(maker);
             }
-            maker = maker * first % n;
+            maker = Numbers.rest(maker * first, n);
         }
     }
 
@@ -490,7 +491,7 @@ public final class PowerRests {
             if (reached == b) {
                 return e;
             }
-            reached = reached * a % n;
+            reached = Numbers.rest(reached * a, n);
         }
         return NONE;
     }
@@ -499,7 +500,7 @@ public final class PowerRests {
         marks.wipeAll();
         // x and n - x have the same square.
         for (long x = 1; 2 * x <= n; x++) {
-            marks.put((int) (x * x % n));
+            marks.put(Numbers.rest(x * x, n));
         }
     }
 
@@ -536,7 +537,7 @@ public final class PowerRests {
     }
 
     private static int signByPrime(int a, int p) {
-        if (a % p == 0) {
+        if (Numbers.rest(a, p) == 0) {
             return 0;
         }
         return Numbers.raise(a, (p - 1) / 2, p) == 1 ? 1 : -1;
@@ -731,7 +732,7 @@ public final class PowerRests {
     private int stayingLetter(int p, int q, int i) {
         int found = 0;
         for (int letter = 0; letter < p * q; letter++) {
-            if (marks.has(letter % p) && marks.has(p + letter % q)) {
+            if (marks.has(Numbers.rest(letter, p)) && marks.has(p + Numbers.rest(letter, q))) {
                 if (found == i) {
                     return letter;
                 }
@@ -746,12 +747,18 @@ public final class PowerRests {
         if (letter == -1) {
             return p - 1;
         }
-        return letter % p == 0 ? 1 : leastExponent(letter % p, p);
+        int rest = Numbers.rest(letter, p);
+        return rest == 0 ? 1 : leastExponent(rest, p);
     }
 
     /** Functions of numbers alone. */
     private static final class Numbers {
         private Numbers() {
+        }
+
+        /** Every divisor that no limit of the document has just looked at is looked at here. */
+        static int rest(long a, int n) {
+            return n < 1 ? 0 : (int) (a % n);
         }
 
         static int raise(long base, long exponent, int n) {
@@ -852,7 +859,7 @@ public final class PowerRests {
         private int takeOut(int p, int n) {
             int open = n;
             int often = 0;
-            for (int step = 0; step < 32 && open % p == 0; step++) {
+            for (int step = 0; step < 32 && p > 1 && open % p == 0; step++) {
                 open /= p;
                 often++;
             }
@@ -866,25 +873,20 @@ public final class PowerRests {
 
         boolean sharesWith(int a) {
             for (int k = 0; k < kinds; k++) {
-                if (a % primes[k] == 0) {
+                if (Numbers.rest(a, primes[k]) == 0) {
                     return true;
                 }
             }
             return false;
         }
 
-        private int powerAt(int k) {
-            int product = 1;
-            for (int t = 0; t < times[k]; t++) {
-                product *= primes[k];
-            }
-            return product;
-        }
-
         /** How many units there are by the k-th power of a prime. */
         private int unitsAt(int k) {
-            int whole = powerAt(k);
-            return whole - whole / primes[k];
+            int many = primes[k] - 1;
+            for (int t = 1; t < times[k]; t++) {
+                many *= primes[k];
+            }
+            return many;
         }
 
         int unitCount() {
@@ -1107,7 +1109,7 @@ public final class PowerRests {
             long word = -1L;
             for (int k = 0; k < items && word != 0; k++) {
                 if ((set >> k & 1) == 1) {
-                    word &= words[k][(int) (block % divisors[k])];
+                    word &= words[k][Numbers.rest(block, divisors[k])];
                 }
             }
             return word;
